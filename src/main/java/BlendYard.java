@@ -931,7 +931,7 @@ public final class BlendYard {
         }
 
         static int placeOf(int pile, int layer, int cell) {
-            return rowOf(pile, layer) * MAX_CELLS + cell;
+            return (pile * MAX_LAYERS + layer) * MAX_CELLS + cell;
         }
 
         int pileOf(int machine) {
