@@ -1239,7 +1239,6 @@ public final class BlendYard {
         private void sortByDue(Told told, State state) {
             size = 0;
             for (int ship = 0; ship < told.ships; ship++) {
-                inTime[ship] = false;
                 if (state.sailed[ship] == NONE) {
                     int at = size;
                     while (at > 0 && told.due[byDue[at - 1]] > told.due[ship]) {

@@ -15,6 +15,8 @@ public final class BestTest {
         wayFull();
         wayWithinBounds();
         wayOfLikeOnes();
+        wayMetLater();
+        wayOfTwelveCells();
         wayLastCell();
         wrongWays();
         CHECK.end();
@@ -267,6 +269,35 @@ public final class BestTest {
         y.lay(0, 0, 3, 3, 17);
         // From 0 to 3 whatever lies between: the fewest cells.
         way(y, 0, 0, 13, 0b1001, 26);
+    }
+
+    /** A set that is met later may have fewer bits or fewer cells. */
+    private static void wayMetLater() {
+        int[][] piles = {{9, 9, 11}, {5, 5, 9, 11}};
+        int[][] ways = {{2, 0b101, 20}, {3, 0b1100, 20}};
+        for (int i = 0; i < 2; i++) {
+            BlendYard x = Check.yard("lot a tonnes 900 grade 100;pile p cells 12;gap 0;ship s needs 20 low 0 high 999 due 5 load 2;");
+            for (int cell = 0; cell < piles[i].length; cell++) {
+                x.lay(0, 0, cell, cell, piles[i][cell]);
+            }
+            // By an order that is not done yet the taker stands on a cell on which something lies.
+            x.park(0);
+            x.toCut(0, 0, 0);
+            x.minutes(10);
+            CHECK.due(10, "stands(1)", x.stands(1), 0);
+            way(x, 0, 0, ways[i][0], ways[i][1], ways[i][2]);
+        }
+    }
+
+    private static void wayOfTwelveCells() {
+        BlendYard x = Check.yard("lot a tonnes 900 grade 100;pile p cells 12;gap 0;ship s needs 24 low 0 high 999 due 5 load 2;"
+            + "ship t needs 25 low 0 high 999 due 5 load 2;ship u needs 23 low 0 high 999 due 5 load 2;");
+        x.lay(0, 0, 0, 11, 2);
+        way(x, 0, 0, 21, 0xfff, 24);
+        way(x, 1, 0, -2, -2, -2);
+        way(x, 2, 0, 21, 0xfff, 24);
+        x.lay(0, 0, 11, 11, 20);
+        way(x, 0, 0, 11, 0xc00, 24);
     }
 
     /** From the cell between both ends alike the highest one is the last, also where the other way round would do. */

@@ -9,6 +9,8 @@ public final class HistoryTest {
         twelve();
         refused();
         images();
+        otherLots();
+        waited();
         notHeld();
         CHECK.end();
     }
@@ -164,6 +166,55 @@ public final class HistoryTest {
         x.days(1);
         x.undo();
         CHECK.due(25, "count(9), undo() leaves the images", x.count(9), 2);
+    }
+
+    /** The lot of a layer goes back too. */
+    private static void otherLots() {
+        BlendYard x = Check.yard(YARD);
+        x.lay(0, 0, 0, 0, 4);
+        x.lay(1, 0, 0, 0, 4);
+        x.image(1, false);
+        x.undo();
+        x.undo();
+        x.lay(0, 1, 0, 0, 4);
+        x.lay(1, 1, 0, 0, 4);
+        CHECK.due(25, "cell(0, 0)", x.cell(0, 0), 25);
+        CHECK.due(25, "cell(1, 0)", x.cell(1, 0), 25);
+        x.image(0, false);
+        x.image(1, true);
+        CHECK.due(25, "layer(0, 0, 0)", x.layer(0, 0, 0), 0);
+        CHECK.due(25, "cell(1, 0)", x.cell(1, 0), 10);
+        x.lay(0, 0, 0, 0, 4);
+        x.image(0, true);
+        CHECK.due(25, "layer(0, 0, 0)", x.layer(0, 0, 0), 1);
+        CHECK.due(25, "cell(1, 0)", x.cell(1, 0), 25);
+    }
+
+    private static void waited() {
+        BlendYard x = Check.yard(YARD);
+        x.lay(0, 0, 0, 5, 4);
+        x.toCut(0, 5, 0);
+        x.toCut(0, 4, 0);
+        x.minutes(14);
+        CHECK.due(24, "count(15)", x.count(15), 4);
+        x.image(0, false);
+        x.minutes(5);
+        CHECK.due(24, "count(15)", x.count(15), 9);
+        CHECK.due(24, "undo()", x.undo(), 4);
+        CHECK.due(24, "count(15)", x.count(15), 4);
+        CHECK.due(24, "count(16)", x.count(16), 14);
+        x.undo();
+        CHECK.due(24, "count(15)", x.count(15), 0);
+        x.minutes(9);
+        x.undo();
+        x.minutes(9);
+        x.park(0);
+        CHECK.due(24, "stands(1)", x.stands(1), -1);
+        x.minutes(1);
+        CHECK.due(24, "stands(1)", x.stands(1), 5);
+        x.image(0, true);
+        CHECK.due(25, "count(15)", x.count(15), 4);
+        CHECK.due(25, "stands(1)", x.stands(1), -1);
     }
 
     /** Neither the tape nor what is below goes back. */

@@ -23,6 +23,7 @@ public final class OrderTest {
         bothWait();
         shipsThatTakeNoMore();
         theGoalNext();
+        sixteenOrders();
         ends();
         CHECK.end();
     }
@@ -313,10 +314,15 @@ public final class OrderTest {
         x.toCut(1, 0, 0);
         x.minutes(9);
         CHECK.due(15, "cut of nothing", x.cut(1, 3, 0), -1);
-        x.cut(1, 0, 1);
+        x.park(0);
+        x.lay(0, 0, 2, 2, 2);
+        x.park(0);
+        CHECK.due(15, "cut(0, 2, 1)", x.cut(0, 2, 1), 2);
+        x.minutes(9);
+        CHECK.due(22, "stands(1), cut() makes the way 0", x.stands(1), 2);
         x.park(1);
         x.minutes(9);
-        CHECK.due(22, "stands(1), cut() and park() make the way 0", x.stands(1), -1);
+        CHECK.due(22, "stands(1), park() makes the way 0", x.stands(1), -1);
         x.minutes(1);
         CHECK.due(22, "stands(1)", x.stands(1), 100);
     }
@@ -389,6 +395,36 @@ public final class OrderTest {
         x.toLay(0, 0, 3, 3, 3);
         x.minutes(1);
         CHECK.due(22, "layer(0, 2, 2), an order lays a layer of its own", x.layer(0, 2, 2), 8);
+    }
+
+    /** Eight orders of each machine, all unlike. */
+    private static void sixteenOrders() {
+        BlendYard x = Check.yard("lot a tonnes 999 grade 10;lot b tonnes 999 grade 20;pile p cells 8;pile q cells 8;"
+            + "ship s needs 999 low 0 high 999 due 5 load 1;ship t needs 999 low 0 high 999 due 5 load 1;gap 0;");
+        x.lay(1, 0, 0, 7, 1);
+        x.lay(1, 1, 0, 7, 2);
+        x.lay(1, 0, 0, 7, 4);
+        for (int i = 0; i < 8; i++) {
+            CHECK.due(19, "toLay", x.toLay(0, i % 2, i, 7 - i, 1 + i), i + 1);
+            CHECK.due(20, "toCut", x.toCut(1, 7 - i, i % 3 == 0 ? 0 : 1), i + 1);
+        }
+        x.minutes(200);
+        CHECK.due(4, "count(12)", x.count(12), 0);
+        CHECK.due(4, "count(13)", x.count(13), 0);
+        int[] cells = {8, 6, 4, 2, 2, 4, 6, 8};
+        int[] bits = {0b11111111, 0b01111110, 0b00111100, 0b00011000, 0b00011000, 0b00111100, 0b01111110, 0b11111111};
+        for (int i = 0; i < 8; i++) {
+            CHECK.due(22, "layer(0, " + i + ", 0)", x.layer(0, i, 0), i % 2);
+            CHECK.due(22, "layer(0, " + i + ", 1)", x.layer(0, i, 1), cells[i] * (1 + i));
+            CHECK.due(22, "layer(0, " + i + ", 2)", x.layer(0, i, 2), bits[i]);
+        }
+        CHECK.due(22, "ship(0, 6)", x.ship(0, 6), 21);
+        CHECK.due(22, "ship(1, 6)", x.ship(1, 6), 35);
+        CHECK.due(22, "stands(0)", x.stands(0), 0);
+        CHECK.due(22, "stands(1)", x.stands(1), 100);
+        // 45 by the layers ahead of the orders, then to pile 0, and eight times to the first cell and on to the last one.
+        CHECK.due(22, "count(6)", x.count(6), 45 + 10 + (0 + 7) + (6 + 5) + (4 + 3) + (2 + 1) + (0 + 1) + (2 + 3) + (4 + 5) + (6 + 7));
+        CHECK.due(22, "count(7)", x.count(7), 10 + 7);
     }
 
     private static void ends() {

@@ -242,6 +242,15 @@ public final class PileTest {
         x.lay(0, 0, 1, 1, 1);
         CHECK.due(14, "whyCut(0, 11, 0)", x.whyCut(0, 11, 0), 0);
         CHECK.due(14, "whyCut(0, 0, 0), behind the stacker", x.whyCut(0, 0, 0), 4);
+        x.park(0);
+        x.lay(0, 0, 3, 3, 1);
+        CHECK.due(14, "whyCut(0, 0, 0), the stacker is on the way down", x.whyCut(0, 0, 0), 4);
+        x.park(0);
+        x.lay(0, 0, 11, 11, 1);
+        CHECK.due(12, "whyLay(0, 0, 2, 3, 1), the taker is on the way down", x.whyLay(0, 0, 2, 3, 1), 4);
+        CHECK.due(12, "whyLay(0, 0, 9, 8, 1)", x.whyLay(0, 0, 9, 8, 1), 0);
+        x.park(0);
+        x.lay(0, 0, 1, 1, 1);
         x.park(1);
         CHECK.due(14, "whyCut(0, 11, 0), from nowhere", x.whyCut(0, 11, 0), 0);
         CHECK.due(14, "whyCut(0, 3, 0), from nowhere", x.whyCut(0, 3, 0), 0);

@@ -11,6 +11,7 @@ public final class ShipTest {
         putOffAgain();
         likeLoads();
         likeDues();
+        eachByItself();
         noShips();
         sailedShips();
         CHECK.end();
@@ -171,6 +172,24 @@ public final class ShipTest {
     private static void likeDues() {
         BlendYard x = Check.yard(ships(new int[] {9, 1, 1}, new int[] {9, 2, 1}, new int[] {5, 1, 1}, new int[] {9, 1, 1}));
         plans(x, 0, new int[] {2, 0, 1, 3}, new int[] {0, 1, 3, 4});
+    }
+
+    /** No call needs another one ahead of it. */
+    private static void eachByItself() {
+        for (int call = 0; call < 5; call++) {
+            BlendYard x = Check.yard(ships(new int[] {4, 3, 1}, new int[] {1, 2, 10}, new int[] {9, 5, 100}));
+            x.days(1);
+            for (int i = 0; i < 2; i++) {
+                switch (call) {
+                    case 0: CHECK.due(39, "fewest()", x.fewest(), i == 0 ? 1 : 2); break;
+                    case 1: CHECK.due(40, "order(0)", x.order(0), i == 0 ? 0 : 2); break;
+                    case 2: CHECK.due(40, "order(-1)", x.order(-1), 3); break;
+                    case 3: CHECK.due(41, "ready(1)", x.ready(1), i == 0 ? 10 : 14); break;
+                    default: CHECK.due(42, "cost(1)", x.cost(1), i == 0 ? 90 : 8 + 130);
+                }
+                x.days(4);
+            }
+        }
     }
 
     private static void noShips() {

@@ -11,6 +11,7 @@ public final class TextTest {
         told();
         counts();
         anew();
+        wayAnew();
         grammar();
         twice();
         numbers();
@@ -114,6 +115,7 @@ public final class TextTest {
         x.toLay(0, 0, 0, 0, 1);
         x.toCut(0, 0, 0);
         x.minutes(11);
+        x.toCut(0, 1, 0);
         x.cell(0, 1);
         x.hold(0);
         x.lay(0, 1, 1, 1, 2);
@@ -128,7 +130,7 @@ public final class TextTest {
         CHECK.due(3, "count(9), all else stays", x.count(9), 1);
         CHECK.due(3, "count(0), all else stays", x.count(0), 2);
         CHECK.due(3, "count(3), all else stays", x.count(3), 0);
-        CHECK.due(3, "count(8), all else stays", x.count(8), 10);
+        CHECK.due(3, "count(8), all else stays", x.count(8), 11);
         CHECK.due(3, "pile(0, 1), all else stays", x.pile(0, 1), 3);
         CHECK.due(3, "text anew", Check.tell(x, "lot c tonnes 50 grade 7;pile q cells 3;ship t needs 5 low 0 high 9 due 1 load 1;"), 3);
         int[] want = {1, 1, 1, 1, 0, 0, 0, 0, 0, 0, 0, 0, 0, 0, 0, 0, 0};
@@ -140,6 +142,14 @@ public final class TextTest {
         CHECK.due(3, "ship(0, 7)", x.ship(0, 7), -1);
         CHECK.due(3, "hold(0)", x.hold(0), -2);
         CHECK.due(3, "pile(0, 1)", x.pile(0, 1), 0);
+        x.lay(0, 0, 0, 0, 4);
+        x.park(0);
+        x.cut(0, 0, 0);
+        CHECK.due(3, "hold(0), nothing of the ore ahead of the text", x.hold(0), 7);
+        CHECK.due(3, "below()", x.below(), 1);
+        x.undo();
+        x.undo();
+        x.undo();
         CHECK.due(3, "stands(0)", x.stands(0), -1);
         CHECK.due(3, "stands(1)", x.stands(1), -1);
         CHECK.due(3, "undo()", x.undo(), -1);
@@ -150,7 +160,28 @@ public final class TextTest {
         Check.feed(x, "lot c tonnes 50");
         CHECK.due(3, "text(0)", x.text(0), 0);
         CHECK.due(3, "count(10)", x.count(10), 0);
-        CHECK.due(3, "count(0)", x.count(0), 0);
+        for (int what = 0; what < 3; what++) {
+            CHECK.due(3, "count(" + what + ")", x.count(what), 0);
+        }
+        String again = "lot a tonnes 9 grade 1;pile b cells 2;ship c needs 5 low 0 high 9 due 1 load 1;";
+        CHECK.due(3, "a text", Check.tell(x, again), 3);
+        CHECK.due(3, "the same text again", Check.tell(x, again), 3);
+        CHECK.due(3, "its lines the other way round", Check.tell(x, "pile b cells 2;lot a tonnes 9 grade 1;"), 2);
+        CHECK.due(3, "pile(1, 0)", x.pile(1, 0), -2);
+    }
+
+    /** A way that was begun ahead of the text is not gone on with. */
+    private static void wayAnew() {
+        String yard = "lot a tonnes 99 grade 7;pile p cells 3;ship s needs 5 low 0 high 9 due 1 load 1;";
+        BlendYard x = Check.yard(yard);
+        for (int i = 0; i < 2; i++) {
+            x.toLay(0, 0, 0, 0, 1);
+            x.toCut(0, 2, 0);
+            x.minutes(9);
+            CHECK.due(3, "stands(0)", x.stands(0), -1);
+            CHECK.due(3, "stands(1)", x.stands(1), -1);
+            CHECK.due(3, "text", Check.tell(x, yard), 3);
+        }
     }
 
     private static void fault(String text, int place, int kind) {
@@ -215,6 +246,8 @@ public final class TextTest {
         fault("lot a tonnes 1 grade 1;lot a tonnes 1 grade 1;", 27, 2);
         fault("lot a tonnes 1 grade 1;pile a cells 2;", 28, 2);
         fault("pile ab cells 2;ship ab needs", 21, 2);
+        fault("pile ab cells 2;pile ab\ncells 2;", 21, 2);
+        fault("pile a cells 2;lot\na\n;", 19, 2);
         fits("pile ab cells 2;pile ba cells 2;pile a cells 2;lot b tonnes 1 grade 1;", 4);
         fits("pile az cells 2;pile ba cells 2;lot zzzzzz tonnes 1 grade 1;lot zzzzz tonnes 1 grade 1;", 4);
         fault("gap 1;gap 1;", 6, 2);

@@ -25,7 +25,8 @@ public final class TwinTest {
 
     public static void main(String[] args) {
         Check check = new Check("TwinTest");
-        for (int run = 0; run < RUNS; run++) {
+        int runs = args.length == 0 ? RUNS : Integer.parseInt(args[0]);
+        for (int run = 0; run < runs; run++) {
             new TwinTest(check, run).runAll();
         }
         check.end();
@@ -337,13 +338,18 @@ public final class TwinTest {
 
     private void shipsNow() {
         int ship = near(0, ships - 1);
-        due(39, "fewest()", x.fewest(), y.fewest());
-        for (int k = -2; k < 9; k++) {
-            due(40, "order(" + k + ")", x.order(k), y.order(k));
-        }
-        due(41, "ready(" + ship + ")", x.ready(ship), y.ready(ship));
-        for (int what = -1; what < 3; what++) {
-            due(42, "cost(" + what + ")", x.cost(what), y.cost(what));
+        switch (dice(4)) {
+            case 0: due(39, "fewest()", x.fewest(), y.fewest()); break;
+            case 1:
+                for (int k = -2; k < 9; k++) {
+                    due(40, "order(" + k + ")", x.order(k), y.order(k));
+                }
+                break;
+            case 2: due(41, "ready(" + ship + ")", x.ready(ship), y.ready(ship)); break;
+            default:
+                for (int what = -1; what < 3; what++) {
+                    due(42, "cost(" + what + ")", x.cost(what), y.cost(what));
+                }
         }
     }
 }
