@@ -11,6 +11,7 @@ public final class GradeTest {
         holds();
         within();
         spreads();
+        twelveCells();
         widest();
         ifLaid();
         CHECK.end();
@@ -135,6 +136,21 @@ public final class GradeTest {
         CHECK.due(31, "spread(3)", x.spread(3), -1);
         x.cell(0, 0);
         CHECK.due(32, "spreadBelow(), the latest told", x.spreadBelow(), 33);
+    }
+
+    private static void twelveCells() {
+        BlendYard x = Check.yard("lot a tonnes 900 grade 100;lot b tonnes 900 grade 200;pile p cells 12;pile q cells 12;");
+        x.lay(0, 0, 0, 11, 5);
+        x.lay(0, 1, 0, 0, 5);
+        x.lay(1, 1, 0, 0, 7);
+        CHECK.due(31, "spread(0)", x.spread(0), 50);
+        CHECK.due(32, "spreadBelow()", x.spreadBelow(), 1);
+        CHECK.due(30, "within(0, 0, 999)", x.within(0, 0, 999), 0xfff);
+        CHECK.due(30, "within(0, 200, 200)", x.within(0, 200, 200), 0);
+        CHECK.due(27, "whole(0)", x.whole(0), 1400);
+        CHECK.due(29, "below()", x.below(), 13);
+        CHECK.due(7, "pile(0, 2)", x.pile(0, 2), 65);
+        CHECK.due(8, "layer(0, 0, 2)", x.layer(0, 0, 2), 0xfff);
     }
 
     /** A spread whose parts need more than 32 bits on the way, and one whose answer does. */

@@ -13,6 +13,7 @@ public final class TextTest {
         anew();
         wayAnew();
         grammar();
+        words();
         twice();
         numbers();
         tooMany();
@@ -240,6 +241,22 @@ public final class TextTest {
         fault("ship a needs 1 low 0 high 0 due 1 load 1", 40, 1);
         fault("ship a needs 1 low 0 due 1 load 1;", 21, 1);
         fault("lot a tonnes 1 grade 1;lot b tonnes 12", 38, 1);
+    }
+
+    /** Each letter of each word that a line needs, changed. */
+    private static void words() {
+        String text = "lot aq tonnes 1 grade 1;pile bq cells 2;ship cq needs 1 low 0 high 0 due 1 load 1 fine 1;gap 1;";
+        fits(text, 4);
+        int start = 0;
+        for (int i = 0; i < text.length(); i++) {
+            boolean letter = Character.isLetter(text.charAt(i));
+            boolean first = letter && (i == 0 || !Character.isLetter(text.charAt(i - 1)));
+            start = first ? i : start;
+            if (letter && text.charAt(start + 1) != 'q') {
+                char other = text.charAt(i) == 'z' ? 'y' : 'z';
+                fault(text.substring(0, i) + other + text.substring(i + 1), start, 1);
+            }
+        }
     }
 
     private static void twice() {
