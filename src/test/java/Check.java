@@ -10,6 +10,11 @@ final class Check {
     private final String name;
     private int passed = 0;
     private int failed = 0;
+    private int promise = 0;
+    private String sentence = "";
+    private int sentences = 0;
+    private int passedAhead = 0;
+    private int failedAhead = 0;
 
     Check(String name) {
         this.name = name;
@@ -28,6 +33,34 @@ final class Check {
         due(promise, call, got ? 1 : 0, want ? 1 : 0);
     }
 
+    /** The checks that follow hold this sentence of the document to its word. */
+    void says(int ofPromise, String words) {
+        endSentence();
+        promise = ofPromise;
+        sentence = words;
+        sentences++;
+    }
+
+    private void endSentence() {
+        if (sentences > 0 && passed == passedAhead && failed == failedAhead) {
+            due(promise, "'" + sentence + "': number of checks", 0, 1);
+        }
+        passedAhead = passed;
+        failedAhead = failed;
+    }
+
+    void due(String call, long got, long want) {
+        due(promise, "'" + sentence + "': " + call, got, want);
+    }
+
+    void due(String call, boolean got, boolean want) {
+        due(call, got ? 1 : 0, want ? 1 : 0);
+    }
+
+    void lacks(String call, Call made) {
+        lacks(promise, "'" + sentence + "': " + call, made);
+    }
+
     void lacks(int promise, String call, Call made) {
         int thrown = 0;
         try {
@@ -39,7 +72,9 @@ final class Check {
     }
 
     void end() {
-        System.out.println(name + ": " + passed + " passed, " + failed + " failed");
+        endSentence();
+        String held = sentences == 0 ? "" : sentences + " sentences, ";
+        System.out.println(name + ": " + held + passed + " passed, " + failed + " failed");
         if (failed != 0) {
             System.exit(1);
         }
