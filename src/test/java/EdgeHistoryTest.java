@@ -106,15 +106,9 @@ public final class EdgeHistoryTest {
         for (int what = 0; what < ACTS.length; what++) {
             CHECK.says(24, "What was done (" + ACTS[what] + ") can be taken back");
             BlendYard x = busy();
-            while (x.count(8) > 3) {
-                x.image(0, false);
-                x.image(0, true);
-                x.days(1);
-                x.days(1);
-                x.days(1);
-                x.undo();
-                x.undo();
-            }
+            x.image(0, false);
+            x.image(0, true);
+            x.days(1);
             String before = state(x);
             int held = x.count(8);
             long answer = act(x, what);
