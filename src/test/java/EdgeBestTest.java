@@ -70,7 +70,7 @@ public final class EdgeBestTest {
         for (int i = 0; i < 12; i++) {
             noOrder(x, 1 << i, 5);
         }
-        for (int bits = 0; bits < 1 << 12; bits += 37) {
+        for (int bits = 0; bits < 1 << 12; bits += 67) {
             int n = Integer.bitCount(bits);
             boolean can = n >= 2 && n <= 6;
             CHECK.due("layOrder of " + n, x.layOrder(bits, 5, 0) == -1, !can);
@@ -78,6 +78,7 @@ public final class EdgeBestTest {
             CHECK.due("layOrder of " + n + ", the last one", x.layOrder(bits, 5, n - 1) >= 0, can);
             CHECK.due("worst of " + n, x.worst(bits, 5) == -1, !can);
         }
+        x = Check.yard(lots(1, 1, 1, 2, 1, 3, 1, 4, 1, 5, 1, 6, 1, 7, 1, 8, 1, 9, 1, 10, 1, 11, 1, 12));
         order(x, 0b11, 1, 0, 1);
         order(x, 0b110000000000, 11, 10, 11);
         order(x, 0b111111, 1, 0, 1, 2, 3, 4, 5);
@@ -312,6 +313,13 @@ public final class EdgeBestTest {
         x.lay(1, 0, 0, 0, 1);
         CHECK.due("36 of 35", x.next(0, 3, 999), -2);
         CHECK.due("no LOTS", Check.yard("pile p cells 2;").next(0, 1, 0), -2);
+        BlendYard y = Check.yard(lots(1, 1, 1, 2, 1, 3, 1, 4, 1, 5, 1, 6, 1, 7, 1, 8, 1, 9, 1, 10, 1, 11, 2, 12) + "pile p cells 2;");
+        CHECK.due("of the twelfth one alone", y.next(0, 1, 0), 11);
+        CHECK.due("of none of twelve", y.next(0, 2, 0), -2);
+        Check.tell(y, "pile p cells 2;");
+        CHECK.due("of none of the TEXT ahead", y.next(0, 1, 0), -2);
+        Check.tell(y, "pile p cells 2;");
+        CHECK.due("of none of the TEXT ahead of it", y.next(0, 1, 0), -2);
     }
 
     private static void nearest() {

@@ -328,6 +328,24 @@ public final class EdgeGradeTest {
             CHECK.due("b at " + p[0] + ", c at " + p[1], x.spread(0), 443);
             CHECK.due("spreadBelow()", x.spreadBelow(), 7);
         }
+        CHECK.says(31, "The greatest GRADE of a CUT, the least one: of a tonne alone, too");
+        for (int lot : new int[] {1, 2}) {
+            for (int cell = 0; cell < 2; cell++) {
+                BlendYard z = Check.yard(YARD);
+                z.lay(1, lot, cell, cell, 1);
+                z.lay(1, 0, 1 - cell, 1 - cell, 9);
+                CHECK.due("spread(1)", z.spread(1), lot == 1 ? 101 : 100);
+            }
+        }
+        CHECK.says(31, "of 12 CELLS, the last one too");
+        BlendYard w = Check.yard(YARD);
+        w.lay(2, 0, 0, 11, 4);
+        w.lay(2, 1, 11, 11, 3);
+        CHECK.due("spread(2)", w.spread(2), 303);
+        CHECK.due("spreadBelow()", w.spreadBelow(), 7);
+        w.lay(2, 3, 0, 0, 1);
+        CHECK.due("spread(2)", w.spread(2), 899);
+        CHECK.due("spreadBelow()", w.spreadBelow(), 5);
         CHECK.says(31, "of a CUT: CELLS on which nothing lies are none");
         BlendYard y = Check.yard(YARD);
         y.lay(0, 0, 1, 1, 4);

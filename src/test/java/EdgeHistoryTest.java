@@ -7,6 +7,9 @@ public final class EdgeHistoryTest {
     public static void main(String[] args) {
         none();
         eachOfNine();
+        theFirstCell();
+        whatWaited();
+        theLotOfALayer();
         refused();
         looksAreNothing();
         twelveAtMost();
@@ -35,16 +38,15 @@ public final class EdgeHistoryTest {
             all.append(what == 8 || what == 9 || what == 10 ? 0 : x.count(what)).append(' ');
         }
         for (int i = 0; i < 2; i++) {
-            all.append(x.lot(i, 2)).append(' ').append(x.stands(i)).append(' ');
+            all.append(x.lot(i, 2)).append(' ').append(x.stands(i)).append(' ').append(x.hold(i)).append(' ');
             for (int what = 6; what < 10; what++) {
                 all.append(x.ship(i, what)).append(' ');
             }
-            all.append(x.pile(i, 1)).append(' ').append(x.pile(i, 2)).append(' ');
-            for (int layer = 0; layer < x.pile(i, 1); layer++) {
-                all.append(x.layer(i, layer, 0)).append(' ').append(x.layer(i, layer, 2)).append(' ');
-                for (int cell = 0; cell < x.pile(i, 0); cell++) {
-                    all.append(x.tonnes(i, layer, cell)).append(' ');
-                }
+            int layers = x.pile(i, 1);
+            all.append(layers).append(' ').append(x.pile(i, 2)).append(' ').append(x.whole(i)).append(' ');
+            for (int layer = 0; layer < layers; layer++) {
+                all.append(x.layer(i, layer, 0)).append(' ').append(x.layer(i, layer, 1)).append(' ');
+                all.append(x.layer(i, layer, 2)).append(' ');
             }
             all.append(x.order(i)).append(' ').append(x.ready(i)).append(' ');
         }
@@ -120,6 +122,89 @@ public final class EdgeHistoryTest {
             CHECK.due("all is as ahead of it", state(x).equals(before), true);
             CHECK.due("done once more", act(x, what), answer);
             CHECK.due("all is as behind it", state(x).equals(after), true);
+        }
+    }
+
+    private static void theFirstCell() {
+        CHECK.says(24, "taken back: what was cut of the first CELL, the last one, what is in the hold");
+        BlendYard x = yard();
+        x.lay(0, 0, 0, 5, 2);
+        x.lay(0, 1, 5, 0, 3);
+        x.park(0);
+        x.cut(0, 3, 1);
+        x.image(1, false);
+        String before = state(x);
+        for (int cell : new int[] {0, 5}) {
+            CHECK.due("cut", x.cut(0, cell, 0), 5);
+            CHECK.due("hold(0)", x.hold(0), 19);
+            CHECK.due("undo()", x.undo(), 4);
+            CHECK.due("state", state(x).equals(before), true);
+            CHECK.due("tonnes(0, 0, " + cell + ")", x.tonnes(0, 0, cell), 2);
+            CHECK.due("tonnes(0, 1, " + cell + ")", x.tonnes(0, 1, cell), 3);
+            CHECK.due("hold(0)", x.hold(0), -2);
+        }
+        x.cut(0, 0, 1);
+        x.cut(0, 5, 0);
+        CHECK.due("image(1, true)", x.image(1, true), true);
+        CHECK.due("state", state(x).equals(before), true);
+        CHECK.due("hold(1)", x.hold(1), 19);
+        x.cut(0, 4, 1);
+        CHECK.due("hold(1)", x.hold(1), 19);
+        CHECK.due("ship(1, 6)", x.ship(1, 6), 10);
+    }
+
+    private static void whatWaited() {
+        CHECK.says(24, "taken back: MINUTES that they WAITED, that went by");
+        BlendYard x = yard();
+        x.lay(0, 0, 0, 5, 2);
+        x.lay(0, 0, 3, 3, 2);
+        x.cut(0, 0, 1);
+        x.toCut(0, 5, 1);
+        x.toLay(0, 0, 0, 0, 1);
+        x.minutes(5);
+        x.image(0, false);
+        int[] first = {x.count(14), x.count(15), x.count(16)};
+        CHECK.due("count(14)", first[0], 5);
+        CHECK.due("count(15)", first[1], 4);
+        x.minutes(3);
+        CHECK.due("count(14)", x.count(14), 8);
+        CHECK.due("undo()", x.undo(), 6);
+        for (int i = 0; i < 3; i++) {
+            CHECK.due("count(" + (14 + i) + ")", x.count(14 + i), first[i]);
+        }
+        x.undo();
+        for (int i = 0; i < 3; i++) {
+            CHECK.due("count(" + (14 + i) + ")", x.count(14 + i), 0);
+        }
+        x.image(0, true);
+        for (int i = 0; i < 3; i++) {
+            CHECK.due("count(" + (14 + i) + "), as in the IMAGE", x.count(14 + i), first[i]);
+        }
+    }
+
+    private static void theLotOfALayer() {
+        CHECK.says(25, "back: the LOT of each LAYER is as in it");
+        BlendYard x = yard();
+        for (int pile = 0; pile < 2; pile++) {
+            x.lay(pile, 0, 0, 0, 4);
+            x.lay(pile, 1, 0, 0, 4);
+        }
+        x.image(0, false);
+        for (int i = 0; i < 4; i++) {
+            x.undo();
+        }
+        for (int pile = 0; pile < 2; pile++) {
+            x.lay(pile, 1, 0, 0, 4);
+            x.lay(pile, 0, 0, 0, 6);
+        }
+        x.image(1, false);
+        for (int k = 0; k < 2; k++) {
+            CHECK.due("image(" + k + ", true)", x.image(k, true), true);
+            for (int pile = 0; pile < 2; pile++) {
+                CHECK.due("layer(" + pile + ", 0, 0)", x.layer(pile, 0, 0), k);
+                CHECK.due("layer(" + pile + ", 1, 0)", x.layer(pile, 1, 0), 1 - k);
+                CHECK.due("cell(" + pile + ", 0)", x.cell(pile, 0), k == 0 ? 35 : 16);
+            }
         }
     }
 

@@ -412,6 +412,8 @@ public final class EdgeShipTest {
             y.days(99);
         }
         y.days(9);
+        CHECK.due("count(11), the most there can be", y.count(11), 8);
+        CHECK.due("count(5), none of eight", y.count(5), 0);
         CHECK.due("cost(0), the most there can be", y.cost(0), 8 * 998 * 999);
         CHECK.due("cost(1), the most there can be", y.cost(1), (8 * 997 + 20 * 36) * 999);
     }

@@ -78,6 +78,12 @@ public final class EdgeTextTest {
         CHECK.due("ready", x.ready(0), -1);
         CHECK.due("cost(0)", x.cost(0), 0);
         CHECK.due("cost(1)", x.cost(1), 0);
+        for (int machine = 0; machine < 2; machine++) {
+            CHECK.due("stands(" + machine + ")", x.stands(machine), -1);
+        }
+        for (int what = 5; what < 17; what++) {
+            CHECK.due("count(" + what + ")", x.count(what), 0);
+        }
         CHECK.says(1, "gap 1, DAY 0");
         CHECK.due("count(3)", x.count(3), 1);
         CHECK.due("count(4)", x.count(4), 0);
@@ -209,8 +215,34 @@ public final class EdgeTextTest {
         CHECK.due("below()", x.below(), 1);
         CHECK.due("spreadBelow()", x.spreadBelow(), 1);
         CHECK.due("worstBelow()", x.worstBelow(), 1);
+        x.lay(0, 1, 0, 0, 3);
+        x.park(0);
+        x.cut(0, 0, 0);
+        CHECK.due("hold(0), nothing of what was in it", x.hold(0), 1);
+        CHECK.due("below()", x.below(), 1);
         CHECK.due("gap 1 without, whatever it was", Check.tell(x, "pile p cells 3;"), 1);
         CHECK.due("count(3)", x.count(3), 1);
+        CHECK.says(3, "all is as at first: the WAYS are 0");
+        for (int i = 0; i < 3; i++) {
+            CHECK.due("text", Check.tell(x, USED), 5);
+            x.toLay(0, 0, 0, 0, 1);
+            x.toCut(0, 2, 0);
+            x.minutes(9);
+            CHECK.due("stands(0)", x.stands(0), -1);
+            CHECK.due("stands(1)", x.stands(1), -1);
+        }
+        CHECK.says(3, "all is as at first: LOTS, PILES, SHIPS are those of the latest TEXT alone");
+        for (int i = 1; i <= 6; i++) {
+            int lots = 4 * i % 7;
+            int piles = i % 4;
+            int ships = 5 * i % 7;
+            CHECK.due("text", Check.tell(x, many(lots, piles, ships)), lots + piles + ships);
+            CHECK.due("count(0)", x.count(0), lots);
+            CHECK.due("count(1)", x.count(1), piles);
+            CHECK.due("count(2)", x.count(2), ships);
+            CHECK.due("text of a FAULT", Check.tell(x, many(1, 1, 1) + "#") < -2, true);
+            CHECK.due("count(0)", x.count(0), lots);
+        }
         CHECK.says(3, "no IMAGES, nothing can be taken back");
         BlendYard y = used();
         Check.tell(y, USED);
@@ -465,6 +497,8 @@ public final class EdgeTextTest {
             String less = word.substring(0, word.length() - 1);
             fits("lot " + less + " tonnes 1 grade 1;", 1);
             fits("lot " + word.substring(1) + " tonnes 1 grade 1;", 1);
+            fits("lot x" + word.substring(1) + " tonnes 1 grade 1;", 1);
+            fits("lot " + less + "x tonnes 1 grade 1;", 1);
             if (word.length() < 6) {
                 fits("lot " + word + "s tonnes 1 grade 1;lot s" + word + " tonnes 1 grade 1;", 2);
             }
@@ -483,6 +517,17 @@ public final class EdgeTextTest {
                 fits(ahead + second.replace("@", "rrstuv"), 2);
                 fits(ahead + second.replace("@", "qrstu"), 2);
                 fits(ahead + second.replace("@", "q"), 2);
+            }
+        }
+        String[] near = {"a", "aa", "aaa", "b", "ab", "ba", "bb", "z", "az", "za", "zz", "aaaaaa", "zzzzzz", "zzzzz", "aaaaaz"};
+        for (String one : near) {
+            for (String other : near) {
+                String ahead = lines[1].replace("@", one);
+                if (one.equals(other)) {
+                    fault(ahead + lines[0].replace("@", other), ahead.length() + 4, 2);
+                } else {
+                    fits(ahead + lines[0].replace("@", other), 2);
+                }
             }
         }
         CHECK.says(3, "a NAME of the TEXT ahead may be given again");
@@ -547,6 +592,17 @@ public final class EdgeTextTest {
             ahead.append(part);
         }
         fits(ahead.toString(), 4);
+        String whole = ahead.toString();
+        int start = 0;
+        for (int i = 0; i < whole.length(); i++) {
+            // A letter changed in each WORD that is no NAME.
+            boolean letter = Character.isLetter(whole.charAt(i));
+            start = letter && (i == 0 || !Character.isLetter(whole.charAt(i - 1))) ? i : start;
+            if (letter && Character.isLetter(whole.charAt(start + 1))) {
+                char other = whole.charAt(i) == 'x' ? 'y' : 'x';
+                fault(whole.substring(0, i) + other + whole.substring(i + 1), start, 1);
+            }
+        }
         CHECK.says(3, "a WORD that isn't a NAME where one must stand");
         fault("lot lot tonnes 1 grade 1;", 4, 1);
         fault("lot tonnes 1 grade 1;", 4, 1);

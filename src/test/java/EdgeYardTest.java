@@ -31,6 +31,7 @@ public final class EdgeYardTest {
         nothingLiesThere();
         hasWhatItNeeds();
         sixtyLayers();
+        fullPiles();
         theFirstOfThese();
         nothingHappens();
         park();
@@ -599,6 +600,56 @@ public final class EdgeYardTest {
         CHECK.due("59 LAYERS again", x.whyLay(0, 0, 0, 0, 1), 0);
     }
 
+    /** LAYERS and PILES without room between them: what is done to one doesn't reach the next one. */
+    private static void fullPiles() {
+        CHECK.says(13, "12 CELLS, 60 LAYERS: each LAYER, each PILE by itself");
+        BlendYard x = Check.yard("lot a tonnes 9999 grade 1;lot b tonnes 9999 grade 7;pile p cells 12;pile q cells 12;pile r cells 12;"
+            + "gap 0;ship s needs 999 low 0 high 9 due 1 load 1;");
+        for (int pile = 2; pile >= 0; pile--) {
+            for (int i = 0; i < 60; i++) {
+                x.lay(pile, i % 2, i == 0 ? 0 : 11, i < 2 ? 11 : 11 - i % 3, 1 + pile);
+            }
+        }
+        for (int pile = 0; pile < 3; pile++) {
+            int each = 1 + pile;
+            CHECK.due("pile(" + pile + ", 1)", x.pile(pile, 1), 60);
+            CHECK.due("pile(" + pile + ", 2)", x.pile(pile, 2), (12 + 1 + 19 * 1 + 19 * 2 + 20 * 3) * each);
+            CHECK.due("layer(" + pile + ", 0, 1)", x.layer(pile, 0, 1), 12 * each);
+            CHECK.due("layer(" + pile + ", 0, 2)", x.layer(pile, 0, 2), 0xfff);
+            CHECK.due("layer(" + pile + ", 1, 2)", x.layer(pile, 1, 2), 0x800);
+            CHECK.due("layer(" + pile + ", 59, 1)", x.layer(pile, 59, 1), 3 * each);
+            CHECK.due("layer(" + pile + ", 59, 2)", x.layer(pile, 59, 2), 0xe00);
+            CHECK.due("tonnes(" + pile + ", 59, 11)", x.tonnes(pile, 59, 11), each);
+            CHECK.due("layer(" + pile + ", 60, 1)", x.layer(pile, 60, 1), -2);
+            CHECK.due("cell(" + pile + ", 0)", x.cell(pile, 0), 1);
+            CHECK.due("within(" + pile + ", 1, 1)", x.within(pile, 1, 1), 0x1ff);
+            CHECK.due("within(" + pile + ", 2, 999)", x.within(pile, 2, 999), 0xe00);
+            CHECK.due("whole(" + pile + ")", x.whole(pile), 242);
+            CHECK.due("below()", x.below(), 65);
+        }
+        x.park(0);
+        CHECK.due("cut(0, 11, 0)", x.cut(0, 11, 0), 60);
+        CHECK.due("cut(0, 0, 0)", x.cut(0, 0, 0), 1);
+        CHECK.due("tonnes(1, 0, 11)", x.tonnes(1, 0, 11), 2);
+        CHECK.due("tonnes(1, 0, 0)", x.tonnes(1, 0, 0), 2);
+        CHECK.due("cut(2, 11, 0)", x.cut(2, 11, 0), 180);
+        CHECK.due("pile(0, 2)", x.pile(0, 2), 130 - 61);
+        CHECK.due("pile(1, 2)", x.pile(1, 2), 130 * 2);
+        CHECK.due("pile(2, 2)", x.pile(2, 2), 130 * 3 - 180);
+        CHECK.says(13, "a new LAYER holds nothing of one that was taken back");
+        BlendYard y = Check.yard(YARD);
+        y.lay(0, 0, 0, 5, 3);
+        y.undo();
+        CHECK.due("cell(0, 0)", y.cell(0, 0), -2);
+        y.lay(0, 1, 2, 2, 1);
+        CHECK.due("layer(0, 0, 1)", y.layer(0, 0, 1), 1);
+        CHECK.due("cell(0, 0)", y.cell(0, 0), -2);
+        y.lay(0, 0, 2, 2, 5);
+        y.undo();
+        CHECK.due("cell(0, 2)", y.cell(0, 2), 200);
+        CHECK.due("whole(0)", y.whole(0), 200);
+    }
+
     private static void theFirstOfThese() {
         CHECK.says(12, "WHY NOT, the first of these (LAY)");
         BlendYard x = Check.yard("lot a tonnes 100 grade 1;pile p cells 6;gap 1;ship s needs 99 low 0 high 9 due 1 load 1;");
@@ -665,6 +716,11 @@ public final class EdgeYardTest {
             CHECK.due("nothing happens", state(x).equals(before), true);
         }
         CHECK.says(15, "NONE, and nothing happens: it can't be (cut)");
+        x = Check.yard(YARD);
+        x.lay(0, 0, 0, 5, 2);
+        x.lay(0, 0, 4, 4, 8);
+        x.cut(0, 0, 0);
+        before = state(x);
         int[][] cuts = {{2, 0, 0}, {0, 6, 0}, {0, 2, 2}, {0, 0, 0}, {0, 5, 0}, {0, 3, 0}, {MAX, MAX, MAX}, {MIN, MIN, MIN}};
         for (int[] c : cuts) {
             CHECK.due("cut", x.cut(c[0], c[1], c[2]), -1);

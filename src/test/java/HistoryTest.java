@@ -24,7 +24,7 @@ public final class HistoryTest {
         for (int i = 0; i < 2; i++) {
             told.append(x.lot(i, 2)).append(' ').append(x.ship(i, 6)).append(' ').append(x.ship(i, 7)).append(' ');
             told.append(x.ship(i, 8)).append(' ').append(x.stands(i)).append(' ').append(x.pile(i, 1)).append(' ');
-            for (int layer = 0; layer < 8; layer++) {
+            for (int layer = 0; layer < 4; layer++) {
                 told.append(x.layer(i, layer, 0)).append(' ').append(x.layer(i, layer, 1)).append(' ');
                 told.append(x.layer(i, layer, 2)).append(' ');
             }
@@ -63,26 +63,34 @@ public final class HistoryTest {
 
     private static final int[] DUE = {15, 6, 1, 8, 1, 1, 0, 9, 4, 1, 1, 0};
 
-    private static void each() {
+    private static BlendYard acted(int acts) {
         BlendYard x = Check.yard(YARD);
-        long[][] before = new long[12][];
-        for (int i = 0; i < 12; i++) {
-            before[i] = all(x);
+        for (int i = 0; i < acts; i++) {
             CHECK.due(24, "act " + i, act(x, i), DUE[i]);
             CHECK.due(4, "count(8)", x.count(8), i + 1);
         }
-        long[] last = all(x);
-        for (int i = 11; i >= 0; i--) {
-            CHECK.due(24, "undo()", x.undo(), i);
-            alike(24, "act " + i + " taken back", all(x), before[i]);
-            CHECK.due(24, "count(8)", x.count(8), i);
+        return x;
+    }
+
+    /** All twelve acts are done, some taken back, then done once more. */
+    private static void each() {
+        long[] last = all(acted(12));
+        for (int kept = 0; kept < 12; kept++) {
+            BlendYard x = acted(12);
+            for (int i = 11; i >= kept; i--) {
+                CHECK.due(24, "undo()", x.undo(), i);
+                CHECK.due(24, "count(8)", x.count(8), i);
+            }
+            alike(24, "taken back to act " + kept, all(x), all(acted(kept)));
+            for (int i = kept; i < 12; i++) {
+                CHECK.due(24, "act " + i + " once more", act(x, i), DUE[i]);
+            }
+            alike(24, "all once more", all(x), last);
+            for (int i = 11; i >= 0; i--) {
+                CHECK.due(24, "undo()", x.undo(), i);
+            }
+            CHECK.due(24, "undo(), none", x.undo(), -1);
         }
-        CHECK.due(24, "undo(), none", x.undo(), -1);
-        for (int i = 0; i < 12; i++) {
-            alike(24, "ahead of act " + i + " once more", all(x), before[i]);
-            CHECK.due(24, "act " + i + " once more", act(x, i), DUE[i]);
-        }
-        alike(24, "all once more", all(x), last);
     }
 
     private static void twelve() {

@@ -2,8 +2,9 @@ import java.util.NoSuchElementException;
 
 /** All promises: long runs of calls, each run always the same, held against SlowYard. */
 public final class TwinTest {
-    private static final int RUNS = 1500;
-    private static final int CALLS = 500;
+    private static final int RUNS = 7000;
+    // An object is used for 512 calls: a run ends with these, and what a step that was begun needs still.
+    private static final int CALLS = 400;
     private static final int THROWN = 123456789;
 
     private final Check check;
@@ -11,7 +12,8 @@ public final class TwinTest {
     private long seed;
     private final BlendYard x = new BlendYard();
     private final SlowYard y = new SlowYard();
-    private int same = 0;
+    private int calls = 0;
+    private boolean same = true;
     private int lots;
     private int piles;
     private int ships;
@@ -55,16 +57,16 @@ public final class TwinTest {
     private void runAll() {
         busy = dice(4);
         tellText();
-        for (int i = 0; i < CALLS && same == i; i++) {
+        while (calls < CALLS && same) {
             call();
-            same++;
         }
     }
 
     private void due(int promise, String call, long got, long want) {
         check.due(promise, run + call, got, want);
+        calls++;
         if (got != want) {
-            same = -2;
+            same = false;
         }
     }
 
