@@ -626,6 +626,8 @@ public final class EdgeYardTest {
             CHECK.due("within(" + pile + ", 2, 999)", x.within(pile, 2, 999), 0xe00);
             CHECK.due("whole(" + pile + ")", x.whole(pile), 242);
             CHECK.due("below()", x.below(), 65);
+            CHECK.due("spread(" + pile + ")", x.spread(pile), 3);
+            CHECK.due("spreadBelow()", x.spreadBelow(), 1);
         }
         x.park(0);
         CHECK.due("cut(0, 11, 0)", x.cut(0, 11, 0), 60);
